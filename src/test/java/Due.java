@@ -1,0 +1,32 @@
+/** Collects answers that are not as due. */
+final class Due {
+    private static int wrong = 0;
+    private static int looked = 0;
+
+    private Due() { }
+
+    static void is(String call, long got, long want) {
+        looked++;
+        if (got != want) {
+            wrong++;
+            System.out.println(call + " answered " + got + ", due is " + want);
+        }
+    }
+
+    static void holds(String what, boolean so) {
+        is(what, so ? 1 : 0, 1);
+    }
+
+    /** Tells a row of calls at once: the wanted answers in the order of the calls. */
+    static void are(String call, long[] got, long... want) {
+        is(call + " has so many", got.length, want.length);
+        for (int i = 0; i < got.length && i < want.length; i++) {
+            is(call + " [" + i + "]", got[i], want[i]);
+        }
+    }
+
+    static void end() {
+        System.out.println(wrong == 0 ? looked + " answers are as due" : wrong + " of " + looked + " answers are not as due");
+        System.exit(wrong == 0 ? 0 : 1);
+    }
+}
