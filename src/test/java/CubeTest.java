@@ -106,6 +106,9 @@ public final class CubeTest {
         x.set(0, 1, 9);
         Due.is("BELOW of 9", x.sets(0, 0), 0);
         Due.is("told stays", x.sets(0, 1), told);
+        x.come(1L << 8);
+        x.set(1, 0, 5);
+        Due.is("MIRRORED of d: of abc", x.sets(1, 0), 1L << 14);
         x.cube(6);
         x.come(Long.MIN_VALUE);
         x.set(0, 0, 1);
@@ -164,6 +167,9 @@ public final class CubeTest {
         Due.is("a, b are an antichain", x.is(5, 0), 1);
         Due.is("a, b have nothing in common", x.is(5, 1), 0);
         Due.is("a, b lack the empty set", x.is(5, 2), 0);
+        Due.is("b alone is not at rest by a, b", x.come(1L << 2), 6);
+        Due.is("b alone", x.is(6, 3), 0);
+        x.drop();
         long[] bad = {x.is(6, 0), x.is(-1, 0), x.is(0, 4), x.is(0, -1)};
         Due.are("bad is()", bad, -1, -1, -1, -1);
     }

@@ -94,6 +94,7 @@ public final class MeasureTest {
         Due.are("bad lots()", bad, -1, -1, -1, -1, -1, -1);
         Due.is("p 0: none", x.lots(20, 0, 77, 1), 0);
         Due.is("p 100: all", x.lots(20, 100, 77, 0), 0);
+        Due.holds("one lot is one", x.lots(1, 100, 1, 0) == 0 && x.lots(1, 50, 1, 1) > 0);
         for (int what = 0; what <= 1; what++) {
             int z = Integer.MIN_VALUE + 5;
             int together = 0;

@@ -71,8 +71,9 @@ public final class OrderTest {
         Due.is("the empty set has no shadow", x.least(2, 1, 0), 0);
         Due.is("it is the first", x.leastSets(2, 1, 0), 1);
         long[] bad = {x.least(-1, 0, 0), x.least(3, 0, 0), x.least(0, -1, 0), x.least(0, 9, 0), x.least(2, 4, 2),
-            x.least(2, 1, -1), x.least(2, 1, 4), x.least(2, -1, 1)};
-        Due.are("bad least()", bad, -1, -1, -1, -1, -1, -1, -1, -1);
+            x.least(2, 1, -1), x.least(2, 1, 4), x.least(2, -1, 1),
+            x.least(2, 0, -1), x.least(2, 0, 4)};
+        Due.are("bad least()", bad, -1, -1, -1, -1, -1, -1, -1, -1, -1, -1);
         long none = LeastShadows.VOID;
         long[] badSets = {x.leastSets(3, 0, 0), x.leastSets(0, 9, 0), x.leastSets(2, 4, 2), x.leastSets(2, 1, 4)};
         Due.are("bad leastSets()", badSets, none, none, none, none);

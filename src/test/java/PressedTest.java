@@ -62,5 +62,28 @@ public final class PressedTest {
         Due.is("d: (0, 3)", x.rounds(3), 1);
         x.come(1L << 10);
         Due.is("bd: (0, 1) makes it ad, (1, 3) ab", x.rounds(4), 2);
+        x.come(1L << 2);
+        Due.is("b: (0, 1)", x.rounds(5), 1);
+        x.cube(3);
+        x.come(1L << 4 | 1L << 6);
+        Due.is("c, bc: (0, 1) makes it c, ac, (0, 2) a, ac, (1, 2) a, ab", x.rounds(0), 3);
+        x.come(1L << 1 | 1L << 4);
+        Due.is("a, c: (1, 2) makes it a, b", x.rounds(1), 1);
+        x.cube(6);
+        x.come(1L << 63 | 1L << 48 | 1L << 33 | 1L << 12 | 1L << 34);
+        long now = x.sets(0, 0);
+        int rounds = 0;
+        for (int turn = 0; turn < 9; turn++) {
+            for (int j = 1; j < 6; j++) {
+                for (int i = 0; i < j; i++) {
+                    long next = x.pressed(x.come(now), i, j);
+                    x.drop();
+                    rounds += next == now ? 0 : 1;
+                    now = next;
+                }
+            }
+        }
+        Due.is("as pressing one by one tells", x.rounds(0), rounds);
+        Due.is("at rest as then", x.sets(x.press(0), 0), now);
     }
 }

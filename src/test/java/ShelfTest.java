@@ -24,8 +24,10 @@ public final class ShelfTest {
         x.come(5);
         x.set(0, 0, 2);
         Due.is("kept", x.keep(1, 5, 0), 1);
+        Due.is("kept in the first place", x.keep(1, 0, 0), 1);
         Due.is("a new row is empty", x.shelf(1, 2, 6), 1);
         Due.is("empty", x.kept(1, 5), NONE);
+        Due.is("empty in the first place", x.kept(1, 0), NONE);
         x.keep(1, 5, 0);
         Due.is("a refused one leaves it", x.shelf(1, 2, -1), -14);
         Due.is("it stands", x.kept(1, 5), 40960);
@@ -97,6 +99,9 @@ public final class ShelfTest {
         x.set(0, 0, 5);
         Due.is("each its own row", x.keep(0, 0, 0), 1);
         Due.is("the other one stays", x.kept(1, 0), NONE);
+        x.keep(1, 0, 0);
+        x.like(0, 1);
+        Due.is("the first place, too", x.kept(0, 0), x.kept(1, 0));
         x.shelf(1, 0, 0);
         Due.is("no places", x.like(0, 1), 0);
         Due.is("nothing there", x.kept(0, 1), NONE);
@@ -177,8 +182,10 @@ public final class ShelfTest {
         Due.are("none", none, NONE, NONE, NONE, NONE, NONE);
         Due.is("a refused one leaves it", x.list(0, 0, -5), -14);
         Due.is("it stands", x.get(0, 19), (int) v);
+        x.put(0, 0, 8);
         Due.is("anew", x.list(0, 1, 20), 1);
         Due.is("all 0", x.get(0, 19), 0);
+        Due.is("all 0, the first, too", x.get(0, 0), 0);
         Due.is("missing, n does not matter", x.list(0, -1, -5), 1);
         Due.is("it is none", x.get(0, 0), NONE);
         Due.is("one is there", x.count(7), 1);
