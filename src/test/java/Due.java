@@ -2,14 +2,20 @@
 final class Due {
     private static int wrong = 0;
     private static int looked = 0;
+    private static String about = "";
 
     private Due() { }
+
+    /** What the looks that follow are about, told with those that fail. */
+    static void about(String what) {
+        about = what.isEmpty() ? "" : what + " -- ";
+    }
 
     static void is(String call, long got, long want) {
         looked++;
         if (got != want) {
             wrong++;
-            System.out.println(call + " answered " + got + ", due is " + want);
+            System.out.println(about + call + " answered " + got + ", due is " + want);
         }
     }
 
@@ -23,6 +29,10 @@ final class Due {
         for (int i = 0; i < got.length && i < want.length; i++) {
             is(call + " [" + i + "]", got[i], want[i]);
         }
+    }
+
+    static int looked() {
+        return looked;
     }
 
     static void end() {
