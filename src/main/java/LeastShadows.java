@@ -1353,7 +1353,7 @@ public final class LeastShadows {
             if (done >= MOST_CHANGES) {
                 dropEldest();
             }
-            if (done < 0 || done >= MOST_CHANGES) {
+            if (done < 0 || done >= numbers.length || done >= before.length || done >= after.length) {
                 return;
             }
             numbers[done] = number;
@@ -1364,7 +1364,7 @@ public final class LeastShadows {
         }
 
         private void dropEldest() {
-            for (int i = 1; i < MOST_CHANGES; i++) {
+            for (int i = 1; i < numbers.length && i < before.length && i < after.length; i++) {
                 numbers[i - 1] = numbers[i];
                 before[i - 1] = before[i];
                 after[i - 1] = after[i];
@@ -1373,7 +1373,7 @@ public final class LeastShadows {
         }
 
         private boolean stepBack(Families families) {
-            if (done <= 0 || done > MOST_CHANGES) {
+            if (done <= 0 || done > numbers.length || done > before.length) {
                 return false;
             }
             done--;
@@ -1382,7 +1382,7 @@ public final class LeastShadows {
         }
 
         private boolean stepOn(Families families) {
-            if (done < 0 || done >= held || done >= MOST_CHANGES) {
+            if (done < 0 || done >= held || done >= numbers.length || done >= after.length) {
                 return false;
             }
             families.replace(numbers[done], after[done]);

@@ -266,6 +266,10 @@ final class ChangeEdges {
         x.set(1, 1, 2);
         x.image();
         Due.is("at once", x.alike(), 1);
+        x.undo();
+        Due.is("a CHANGE from ahead of it UNDONE", x.alike(), 0);
+        x.redo();
+        Due.is("and DONE AGAIN", x.alike(), 1);
         x.set(1, 1, 3);
         Due.is("another FIGURE", x.alike(), 0);
         x.undo();
@@ -456,6 +460,9 @@ final class ChangeEdges {
             x.come(3);
         }
         Due.is("two of n 6", x.back(), 2);
+        for (int gone = 2; gone < 8; gone++) {
+            Due.is("what came behind is none", x.of(gone, 0), -1);
+        }
         long[] all = {x.count(0), x.count(1), x.of(0, 0), x.sets(0, 1), x.sets(1, 1), x.of(2, 0), x.alike()};
         Due.are("as the image", all, 2, 6, 5, 1, 2, -1, 1);
         x.set(0, 1, 4);

@@ -151,7 +151,9 @@ final class CubeEdges {
         LeastShadows x = Made.fullOfFamilies();
         x.cube(4);
         Due.is("as large as before", x.count(0), 0);
-        Due.is("none of its number", x.of(0, 0), -1);
+        for (int gone = 0; gone < 8; gone++) {
+            Due.is("none of its number", x.of(gone, 0), -1);
+        }
         x = Made.families(1);
         x.cube(6);
         Due.is("larger", x.count(0), 0);
@@ -417,6 +419,8 @@ final class CubeEdges {
         Due.is("its KIND", x.of(1, 0), 0);
         Due.is("its FIGURE", x.of(1, 1), 0);
         Due.is("two of the same are two", x.come(3), 2);
+        States.changes(States::rich, "come(255)", y -> y.come(255), "families", "changes");
+        States.changes(States::emptied, "come(1)", y -> y.come(1), "families", "changes");
     }
 
     private static void comeBad() {
@@ -446,11 +450,15 @@ final class CubeEdges {
         LeastShadows x = Made.fullOfFamilies();
         for (int left = 7; left >= 0; left--) {
             Due.is("drop()", x.drop(), left);
-            Due.is("it is none", x.of(left, 0), -1);
+            for (int gone = left; gone < 8; gone++) {
+                Due.is("it is none", x.of(gone, 0), -1);
+            }
             if (left > 0) {
                 Due.is("the one ahead stays", x.sets(left - 1, 1), 1 << (left - 1));
             }
         }
+        States.changes(States::rich, "drop()", LeastShadows::drop, "families", "changes");
+        States.changes(States::full, "drop()", LeastShadows::drop, "families", "changes");
     }
 
     private static void dropNone() {

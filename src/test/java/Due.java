@@ -1,10 +1,29 @@
-/** Collects answers that are not as due. */
+/** Collects answers that are not as due. A test that does not end is ended as failed. */
 final class Due {
+    private static final long MOST_MILLISECONDS = 300000;
+
     private static int wrong = 0;
     private static int looked = 0;
-    private static String about = "";
+    private static volatile String about = "";
+
+    static {
+        Thread watch = new Thread(Due::failWhenLate);
+        watch.setDaemon(true);
+        watch.start();
+    }
 
     private Due() { }
+
+    private static void failWhenLate() {
+        try {
+            Thread.sleep(MOST_MILLISECONDS);
+        } catch (InterruptedException e) {
+            return;
+        }
+        System.out.println(about + "does not end");
+        System.out.flush();
+        Runtime.getRuntime().halt(1);
+    }
 
     /** What the looks that follow are about, told with those that fail. */
     static void about(String what) {

@@ -20,6 +20,7 @@ public final class FaceTest {
         constants();
         members();
         source();
+        methodsAreShort();
         Due.end();
     }
 
@@ -120,5 +121,25 @@ public final class FaceTest {
                 Due.holds("signs are 1 to 127", false);
             }
         }
+    }
+
+    /** A method's end is the brace that stands under its beginning. */
+    private static void methodsAreShort() throws Exception {
+        String[] lines = Files.readString(SOURCE).split("\n");
+        Pattern begins = Pattern.compile("(    |        )(?! |return|if|for|while|switch).*\\) \\{");
+        int many = 0;
+        for (int i = 0; i < lines.length; i++) {
+            Matcher begin = begins.matcher(lines[i]);
+            if (!begin.matches()) {
+                continue;
+            }
+            int end = i;
+            while (end < lines.length && !lines[end].equals(begin.group(1) + "}")) {
+                end++;
+            }
+            many++;
+            Due.holds("some sixty lines at most: " + lines[i].trim(), end - i <= 60);
+        }
+        Due.holds("methods were found", many > 120);
     }
 }

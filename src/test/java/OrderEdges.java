@@ -300,6 +300,7 @@ final class OrderEdges {
         LeastShadows x = Made.families(1);
         x.set(0, 1, 3);
         Due.is("behind the others", x.first(0, 3), 1);
+        States.changes(States::rich, "first(0, 0)", y -> y.first(0, 0), "families", "changes");
         Due.is("KIND", x.of(1, 0), 0);
         Due.is("FIGURE", x.of(1, 1), 0);
     }

@@ -149,6 +149,7 @@ final class PressedEdges {
         Due.is("all", x.sets(5, 0), 65535);
         Due.is("what is AT REST comes, too", x.press(3), 6);
         Due.is("as it is", x.sets(6, 0), x.sets(3, 0));
+        States.changes(States::rich, "press(0)", y -> y.press(0), "families", "changes");
         LeastShadows one = Made.cube(1, 2);
         Due.is("n 1", one.press(0), 1);
         Due.is("n 1, as it is", one.sets(1, 0), 2);

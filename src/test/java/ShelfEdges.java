@@ -89,18 +89,22 @@ final class ShelfEdges {
     }
 
     private static void sorts() {
-        int[][] may = {{1, 1, 1, 1, 1, 1}, {-12, -12, -12, 1, 1, -12}, {-12, -12, 1, -12, -12, 1}};
+        int[][] comes = {{1, 1, 1, 1, 1, 1}, {-12, -12, -12, 1, 1, -12}, {-12, -12, 1, -12, -12, 1}};
         for (int sort = 0; sort < 3; sort++) {
             for (int kind = 0; kind < 6; kind++) {
                 LeastShadows x = Made.kind(4, kind, 2, 6);
                 for (int shelf = 0; shelf < 3; shelf++) {
                     x.shelf(shelf, sort, 1);
-                    Due.is("kind " + kind + " on sort " + sort, x.keep(shelf, 0, 0), may[sort][kind]);
-                    Due.is("it stands there or not", x.kept(shelf, 0), may[sort][kind] == 1 ? x.sets(0, 0) : Made.NONE);
+                    Due.is("kind " + kind + " on sort " + sort, x.keep(shelf, 0, 0), comes[sort][kind]);
+                    Due.is("it stands there or not", x.kept(shelf, 0), comes[sort][kind] == 1 ? x.sets(0, 0) : Made.NONE);
                 }
             }
         }
-        LeastShadows x = new LeastShadows();
+        LeastShadows x = Made.families(6);
+        for (int[] may : new int[][] {{1, -12}, {0, 1}, {2, -12}, {0, 1}}) {
+            x.shelf(0, may[0], 1);
+            Due.is("a new row is of the new SORT " + may[0], x.keep(0, 0, 0), may[1]);
+        }
         Due.is("no sort 3", x.shelf(0, 3, 1), -1);
         Due.is("no sort -2", x.shelf(0, -2, 1), -1);
     }
@@ -331,8 +335,13 @@ final class ShelfEdges {
         LeastShadows x = standing(2);
         long[] row = {x.kept(0, 1), x.kept(0, 2), x.kept(1, 0)};
         Due.are("the last, none behind, missing", row, 20, Made.NONE, Made.NONE);
+        x = standing(6);
+        x.shelf(1, 0, 2);
+        x.like(0, 1);
+        Due.are("none behind a shorter row", Made.row(x, 0, 6), Made.NONE, Made.NONE, Made.NONE, Made.NONE, Made.NONE, Made.NONE);
+        x = standing(6);
         x.shelf(0, -1, 0);
-        Due.is("missing again", x.kept(0, 0), Made.NONE);
+        Due.are("missing again", Made.row(x, 0, 6), Made.NONE, Made.NONE, Made.NONE, Made.NONE, Made.NONE, Made.NONE);
         x.shelf(0, 0, 1);
         Due.is("empty", x.kept(0, 0), Made.NONE);
     }
@@ -347,6 +356,7 @@ final class ShelfEdges {
                 Due.is("the same FAMILIES", x.kept(1, i), 10 * i + 10);
             }
             Due.is("the other one stays", x.kept(0, 0), places > 0 ? 10 : Made.NONE);
+            Due.is("of its SORT: any may come", places > 0 ? x.keep(1, 0, 5) : 1, 1);
         }
         LeastShadows x = Made.kind(4, 3, 1, 65535);
         x.shelf(0, 1, 2);
@@ -509,6 +519,12 @@ final class ShelfEdges {
             x.put(1, 0, v);
             Due.is("ints", x.get(0, 0), (int) v);
             Due.is("longs", x.get(1, 0), v);
+            x.list(0, 1, 1);
+            x.list(1, 0, 1);
+            x.put(0, 0, v);
+            x.put(1, 0, v);
+            Due.is("longs in place of ints", x.get(0, 0), v);
+            Due.is("ints in place of longs", x.get(1, 0), (int) v);
         }
     }
 
@@ -643,8 +659,15 @@ final class ShelfEdges {
         States.refused(States::rich, "missing", x -> x.get(2, 0), Made.NONE);
         States.refused(States::rich, "behind two", x -> x.get(0, 2), Made.NONE);
         LeastShadows x = new LeastShadows();
+        x.list(0, 0, 20);
         x.list(0, 0, 3);
+        for (int i = 0; i < 20; i++) {
+            Due.is("behind a shorter row", x.get(0, i), i < 3 ? 0 : Made.NONE);
+            Due.is("nor is it put there", x.put(0, i, 0), i < 3 ? 1 : -13);
+        }
         x.list(0, -1, 3);
-        Due.is("missing again", x.get(0, 0), Made.NONE);
+        for (int i = 0; i < 20; i++) {
+            Due.is("missing again", x.get(0, i), Made.NONE);
+        }
     }
 }

@@ -90,6 +90,15 @@ final class TapeEdges {
                 told(n, "abcdef".substring(e, e + 1), 1L << (1 << e));
             }
         }
+        for (int n = 1; n <= 6; n++) {
+            for (int first = 0; first < n; first++) {
+                for (int second = 0; second < n; second++) {
+                    pair(n, first, second);
+                }
+                fault(n, "0" + "abcdef".charAt(first), 1);
+                fault(n, "abcdef".charAt(first) + "0", 1);
+            }
+        }
         told(6, "af,bcf", 1L << 33 | 1L << 38);
         fault(4, "aa", 1);
         fault(4, "ba", 1);
@@ -99,6 +108,15 @@ final class TapeEdges {
         fault(4, "0a", 1);
         fault(4, "a0", 1);
         fault(4, "A", 0);
+    }
+
+    private static void pair(int n, int first, int second) {
+        String text = "abcdef".substring(first, first + 1) + "abcdef".charAt(second);
+        if (first < second) {
+            told(n, text, 1L << (1 << first | 1 << second));
+        } else {
+            fault(n, text, 1);
+        }
     }
 
     private static void again() {
