@@ -1,6 +1,6 @@
 /** Collects answers that are not as due. A test that does not end is ended as failed. */
 final class Due {
-    private static final long MOST_MILLISECONDS = 300000;
+    private static final long MOST_MILLISECONDS = 120000;
 
     private static int wrong = 0;
     private static int looked = 0;
