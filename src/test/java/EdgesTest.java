@@ -11,6 +11,7 @@ public final class EdgesTest {
         ShelfEdges.test();
         ActEdges.test();
         ChangeEdges.test();
+        LongEdges.test();
         Sentences.end();
         Due.end();
     }

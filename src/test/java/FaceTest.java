@@ -19,6 +19,7 @@ public final class FaceTest {
         calls();
         constants();
         members();
+        headings();
         source();
         methodsAreShort();
         Due.end();
@@ -102,6 +103,25 @@ public final class FaceTest {
         for (Method method : LeastShadows.class.getDeclaredMethods()) {
             Due.holds(method + " bears a name of its own", Modifier.isPublic(method.getModifiers()) || !names.contains(method.getName()));
         }
+    }
+
+    /** What the interface says ahead of its calls: the comment, and behind it just these calls. */
+    private static void headings() throws Exception {
+        String[] parts = Files.readString(SOURCE).split("(?m)^    // ---- ");
+        Matcher told = Pattern.compile("(?m)^Ahead of the calls (.*) the interface says: ---- (.*)\\.$").matcher(Files.readString(DOCUMENT));
+        int many = 0;
+        while (told.find()) {
+            many++;
+            String part = many < parts.length ? parts[many] : "";
+            Due.holds("the heading '" + told.group(2) + "' stands there", part.startsWith(told.group(2) + "\n"));
+            StringBuilder calls = new StringBuilder();
+            Matcher call = Pattern.compile("(?m)^    public \\w+ (\\w+)\\(").matcher(part);
+            while (call.find()) {
+                calls.append(calls.length() == 0 ? "`" : ", `").append(call.group(1)).append('`');
+            }
+            Due.holds(calls + " stand behind '" + told.group(2) + "'", calls.toString().equals(told.group(1)));
+        }
+        Due.is("headings", many, 11);
     }
 
     private static void source() throws Exception {

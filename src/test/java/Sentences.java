@@ -6,7 +6,7 @@ import java.util.Map;
 
 /**
  * Tests of one sentence each. A sentence is told by the part of the document where it stands
- * ("Terms", "Promise 7") and by its own words, so that in the end each word of these parts can be
+ * ("What it is", "Terms", "Promise 7") and by its own words, so that in the end each word of these parts can be
  * shown to have a test.
  */
 final class Sentences {
@@ -28,14 +28,14 @@ final class Sentences {
         Map<String, String> parts = new LinkedHashMap<>();
         for (String part : document.split("(?m)^## ")) {
             String title = part.lines().findFirst().orElse("").split(":")[0];
-            if (title.equals("Terms") || title.startsWith("Promise ")) {
+            if (title.equals("What it is") || title.equals("Terms") || title.startsWith("Promise ")) {
                 parts.put(title, wordsOf(part));
             }
         }
         return parts;
     }
 
-    /** The sentences of a part, without its title, its calls' forms and what stands between them. */
+    /** The sentences of a part, without its title, its calls' forms and its headings (FaceTest has these). */
     private static String wordsOf(String part) {
         return part.replaceFirst("^.*\n", "")
             .replaceAll("(?m)^Ahead of the calls.*$", "")
@@ -80,7 +80,7 @@ final class Sentences {
             String left = untested.toString().replaceAll("\\s+", " ").trim();
             Due.holds(part.getKey() + " is tested" + (left.isEmpty() ? "" : " but for '" + left + "',") + " so it", left.isEmpty());
         }
-        Due.is("parts", PARTS.size(), 53);
+        Due.is("parts", PARTS.size(), 54);
         System.out.println(many + " sentences have a test of their own");
     }
 }
