@@ -121,6 +121,10 @@ final class LongEdges {
     }
 
     private static void held() {
+        List<String> names = new ArrayList<>(Arrays.asList(namesThatLeave("no part")));
+        for (String name : Story.allNames()) {
+            Due.holds(name + "() asks or makes", names.contains(name));
+        }
         held("cube", "cube(3)=4", "count(1)=3 come(256)=-1 ordered(0,7)=7 ordered(0,8)=-2 cube(1)=3");
         held("families", "cube(5)=4 come(6)=0 come(0)=1 come(4294967295)=2 set(2,0,4)=0 set(2,1,2)=0 set(0,0,5)=0 set(0,1,7)=0",
             "count(0)=3 of(0,0)=5 of(0,1)=7 sets(0,1)=6 of(1,0)=0 of(1,1)=0 sets(1,1)=0 of(2,0)=4 of(2,1)=2 of(2,2)=16",
